@@ -1723,6 +1723,8 @@ public final class NamelessPost {
   private static final class HitSearch {
     /** Far above the some 340 sets that others on 31 days can make. */
     static final int MOST_SETS = 512;
+    /** Above the worth of any set: sixteen words, each with not, cost 3168 at most. */
+    static final int TOO_DEAR = 10000;
 
     final int[] sets = new int[MOST_SETS];
     int size;
@@ -1740,7 +1742,7 @@ public final class NamelessPost {
       single = 0;
       hopeless = false;
       best = 0;
-      bestPrice = Integer.MAX_VALUE;
+      bestPrice = TOO_DEAR;
       bestWords = WORDS + 1;
     }
 

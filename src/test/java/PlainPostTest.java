@@ -14,7 +14,7 @@ public final class PlainPostTest {
   private static int wrong = 0;
 
   public static void main(String[] args) {
-    int runs = Integer.getInteger("runs", 240);
+    int runs = Integer.getInteger("runs", 160);
     int first = Integer.getInteger("first", 0);
     Map<String, Map<Integer, Integer>> seen = new HashMap<>();
     for (int seed = first; seed < first + runs && wrong < 20; seed++) {
@@ -58,6 +58,9 @@ public final class PlainPostTest {
     }
 
     void go() {
+      if (random.nextInt(6) == 0) {
+        tellMarks();
+      }
       tellWorld();
       while (calls.size() < 512 && wrong < 20) {
         int pick = random.nextInt(100);
@@ -91,6 +94,31 @@ public final class PlainPostTest {
       for (int i = 0; i < 4; i++) {
         feedAll(new String[] {"a", "then a", "a and not u b", "then b or u a", "only a", "not a and not b"}[random.nextInt(6)]);
         call("cover");
+      }
+    }
+
+    /** Many marks and ties, so that there are many sets of words to choose among. */
+    void tellMarks() {
+      for (int i = 0; i < crowd; i++) {
+        call("person", place());
+      }
+      int kinds = 4 + random.nextInt(7);
+      int sender = one();
+      for (int i = 0; i < 56; i++) {
+        int kind = random.nextInt(5) == 0 ? 1 : 0;
+        int what = random.nextInt(kind == 0 ? kinds : 6);
+        call("change", Math.min(999, base + random.nextInt(2)), kind, one(), what, sender, 1);
+      }
+      for (int i = 0; i < 20; i++) {
+        if (random.nextInt(4) == 0) {
+          call("worth", random.nextInt(17), random.nextInt(4));
+        }
+        int day = Math.min(999, base + random.nextInt(3));
+        int person = one();
+        for (int what = 0; what < 5; what++) {
+          call("cheapest", sender, person, day, Math.min(999, day + i % 2), what);
+        }
+        call("apart", day, day, i % 2);
       }
     }
 
@@ -180,6 +208,9 @@ public final class PlainPostTest {
         case 12: case 13: call("letters", random.nextInt(9) - random.nextInt(2), random.nextInt(8) - 1); break;
         case 14: case 15: {
           int[] a = {one(), coverNumber(), one(), place(), day(), 0};
+          if (random.nextBoolean()) {
+            a[2] = oneMeant(a[1], a[0], a[4]);
+          }
           for (a[5] = -1; a[5] < 3; a[5]++) call("sure", a);
           break;
         }
@@ -210,6 +241,9 @@ public final class PlainPostTest {
         case 24: {
           if (random.nextInt(crowd > 6 ? 12 : 1) != 0) break;
           int[] a = {one(), coverNumber(), one(), place(), day(), 0};
+          if (random.nextInt(3) != 0) {
+            a[2] = oneMeant(a[1], a[0], a[4]);
+          }
           for (a[5] = -1; a[5] < 4; a[5]++) call("needs", a);
           break;
         }
@@ -222,6 +256,9 @@ public final class PlainPostTest {
         case 31: call("strangers", day()); break;
         case 32: case 33: {
           int[] a = {one(), coverNumber(), one(), place(), place(), day(), 0};
+          if (random.nextBoolean()) {
+            a[2] = oneMeant(a[1], a[0], a[5]);
+          }
           for (a[6] = -1; a[6] < 3; a[6]++) call("copies", a);
           break;
         }
@@ -244,6 +281,15 @@ public final class PlainPostTest {
         }
       }
       call("judged", cover, sender, place, day);
+    }
+
+    /** One whom a cover fits, if there is one. */
+    int oneMeant(int cover, int sender, int day) {
+      if (plain.cover(cover) == null || !plain.isPerson(sender) || !PlainPost.isDay(day)) {
+        return one();
+      }
+      List<Integer> meant = new ArrayList<>(plain.fits(plain.cover(cover), sender, day, day, -1, true));
+      return meant.isEmpty() ? one() : meant.get(random.nextInt(meant.size()));
     }
 
     int odd() {

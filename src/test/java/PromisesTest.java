@@ -456,6 +456,10 @@ public final class PromisesTest {
     due(0, x.fits(ua, 0, 0, 0, 0));
     move(x, 0, 1, 2);
     due(2, x.fits(onlyNotA, 0, 0, 0, 1));
+    // One alone, about whom nothing was told.
+    x = people(0);
+    due(0, cover(x, "me"));
+    due(1, x.fits(0, 0, 0, 0, 0));
   }
 
   private static void asked() {
@@ -969,6 +973,24 @@ public final class PromisesTest {
     due(1, x.needs(0, ua, 1, 0, 0, 0));
     due(1, x.needs(0, ua, 1, 0, 0, 1));
     due(-2, x.needs(0, ua, 2, 0, 0, 0));
+
+    // Nobody beyond the two can be known, nor one himself: not even 12 and 13 would help.
+    x = people(0, 3);
+    int notMe = cover(x, "not me and not a");
+    x.road(0, 1, 1);
+    mark(x, 0, 1, 0);
+    due(-2, x.needs(0, notMe, 1, 0, 0, 0));
+    // To know less would help here, but is no need.
+    x = people(0, 1, 2);
+    x.road(0, 1, 1);
+    x.road(0, 2, 1);
+    mark(x, 0, 1, 0);
+    mark(x, 0, 2, 0);
+    x.knows(0, 1, true);
+    x.knows(0, 2, true);
+    a = cover(x, "a");
+    due(0, x.needs(0, a, 1, 0, 0, 0));
+    due(-2, x.needs(0, a, 2, 0, 0, 0));
   }
 
   private static void mends() {
@@ -1126,6 +1148,19 @@ public final class PromisesTest {
     x.letter(0, a, 1, 5);
     x.days(1);
     due(2, x.often());
+    // Two each: the least. Then as many letters as there can be.
+    x.letter(0, a, 1, 1);
+    x.days(1);
+    due(1, x.often());
+    x.image(0);
+    x.letter(0, a, 1, 2);
+    x.letter(0, a, 1, 2);
+    x.letter(0, a, 1, 2);
+    x.days(1);
+    due(8, x.count(4));
+    due(2, x.often());
+    x.back(0);
+    due(1, x.often());
   }
 
   private static void images() {
@@ -1136,6 +1171,8 @@ public final class PromisesTest {
     int a = cover(x, "a");
     x.knows(0, 1, true);
     x.worth(3, 7);
+    x.worth(15, 4);
+    x.worth(16, 5);
     x.told(5);
     x.letter(0, a, 1, 0);
     x.days(2);
@@ -1146,6 +1183,8 @@ public final class PromisesTest {
     mark(x, 0, 0, 0);
     x.knows(0, 1, false);
     x.worth(3, 8);
+    x.worth(15, 8);
+    x.worth(16, 8);
     x.told(6);
     x.letter(0, a, 1, 1);
     cover(x, "b");
@@ -1164,6 +1203,8 @@ public final class PromisesTest {
     due(0, x.marks(0, 0));
     due(3, x.sees(0, 0));
     due(7, x.worth(3, 9));
+    due(4, x.worth(15, 9));
+    due(5, x.worth(16, 9));
     due(2, x.fits(a, 0, 0, 0, -1));
     due(0, x.letters(0, 0));
     due(1, x.letters(0, 1));
