@@ -1,76 +1,5 @@
 /** The promises one by one: ordinary inputs, the edges that the document names, wrong inputs. */
-public final class PromisesTest {
-  private static final int MAX = Integer.MAX_VALUE;
-  private static final int MIN = Integer.MIN_VALUE;
-  private static int wrong = 0;
-  private static int promise = 0;
-  private static int row = 0;
-
-  private static void of(int number) {
-    promise = number;
-    row = 0;
-  }
-
-  private static void due(int want, int got) {
-    row++;
-    if (got != want) {
-      wrong++;
-      System.out.println("promise " + promise + ", row " + row + ": answered " + got + ", due is " + want);
-    }
-  }
-
-  private static void due(boolean want, boolean got) {
-    due(want ? 1 : 0, got ? 1 : 0);
-  }
-
-  /** Each of some answers is the same. */
-  private static void all(int want, int... got) {
-    for (int one : got) {
-      due(want, one);
-    }
-  }
-
-  private static void feed(NamelessPost x, String text) {
-    int before = x.count(9);
-    for (int i = 0; i < text.length(); i += 20) {
-      int[] n = new int[5];
-      for (int j = 0; j < 20 && i + j < text.length(); j++) {
-        n[j / 4] |= (text.charAt(i + j) & 255) << 24 - 8 * (j % 4);
-      }
-      x.feed(n[0], n[1], n[2], n[3], n[4]);
-    }
-    x.end(before + text.length());
-  }
-
-  private static int cover(NamelessPost x, String text) {
-    feed(x, text);
-    return x.cover();
-  }
-
-  private static int fault(String text) {
-    return -2 - cover(new NamelessPost(), text);
-  }
-
-  private static NamelessPost people(int... places) {
-    NamelessPost x = new NamelessPost();
-    for (int place : places) {
-      x.person(place);
-    }
-    return x;
-  }
-
-  private static void mark(NamelessPost x, int day, int person, int mark) {
-    x.change(day, 0, person, mark, 0, true);
-  }
-
-  private static void unmark(NamelessPost x, int day, int person, int mark) {
-    x.change(day, 0, person, mark, 0, false);
-  }
-
-  private static void move(NamelessPost x, int day, int person, int place) {
-    x.change(day, 2, person, place, 0, false);
-  }
-
+public final class PromisesTest extends Told {
   public static void main(String[] args) {
     newObject();
     roadsAndPeople();
@@ -100,10 +29,7 @@ public final class PromisesTest {
     often();
     images();
     neverThrows();
-    System.out.println(wrong == 0 ? "all promises are as due" : wrong + " answers are not as due");
-    if (wrong != 0) {
-      System.exit(1);
-    }
+    finish();
   }
 
   private static void newObject() {
@@ -690,26 +616,10 @@ public final class PromisesTest {
     all(-1, x.sure(0, a, 0, 0, 0, 0), x.sure(0, a, 3, 0, 0, 0), x.sure(0, a, 1, -1, 0, 0), x.sure(0, a, 1, 8, 0, 0));
     all(-1, x.sure(0, a, 1, 0, -1, 0), x.sure(0, a, 1, 0, 1000, 0), x.sure(0, a, 1, 0, 0, -1), x.sure(0, a, 1, 0, 0, 2));
 
-    due(60, longWay(9, 6));
-    due(-2, longWay(9, 7));
+    due(60, longWay(6, 1));
+    due(-2, longWay(7, 1));
     due(60, pingPong(60));
     due(-2, pingPong(61));
-  }
-
-  /** How soon over six roads of nine days and one more. */
-  private static int longWay(int days, int last) {
-    NamelessPost x = new NamelessPost();
-    for (int i = 0; i < 8; i++) {
-      x.person(i);
-      if (i > 0) {
-        x.road(i - 1, i, i == 7 ? last : days);
-      }
-    }
-    mark(x, 0, 7, 0);
-    for (int i = 0; i < 7; i++) {
-      x.knows(i, 7, true);
-    }
-    return x.sure(0, cover(x, "a"), 7, 0, 0, 1);
   }
 
   /** A letter to and fro between 0 and 1 until, on a day, the one it is for has the mark. */
@@ -721,22 +631,6 @@ public final class PromisesTest {
       unmark(x, day, i, 0);
     }
     return x.sure(1, 0, 4, 0, 0, 1);
-  }
-
-  /**
-   * Places 0, 1, 2 in a line. 0 at place 2 and 2 at place 0 have the mark; 1 at place 0 tells of
-   * 0, so that it goes to 1; 3 at place 1 knows 2 alone and sends it back to 0. 4 is at place 7.
-   */
-  private static NamelessPost ring(int days) {
-    NamelessPost x = people(2, 0, 0, 1, 7);
-    x.road(0, 1, days);
-    x.road(1, 2, 9);
-    mark(x, 0, 0, 0);
-    mark(x, 0, 2, 0);
-    x.knows(1, 0, true);
-    x.knows(3, 2, true);
-    cover(x, "then a");
-    return x;
   }
 
   private static void rings() {
