@@ -11,18 +11,23 @@ public final class EdgesTest extends Told {
     seen();
     texts();
     words();
+    misspelt();
     numbers();
     depth();
     tooMany();
     firstFault();
     fits();
+    everyWord();
+    askedBefore();
     only();
     then();
     asked();
     wayTowards();
+    noRoads();
     nobodyTells();
     daysGoBy();
     lastLetters();
+    sender();
     stale();
     sureDays();
     sureChoices();
@@ -32,12 +37,14 @@ public final class EdgesTest extends Told {
     worth();
     cheapestDays();
     cheapestOfSeveral();
+    cheapestWords();
     cheapestNone();
     apart();
     endsGoings();
     endsLastDay();
     needs();
     needsFirst();
+    needsNobodyElse();
     mends();
     readers();
     alone();
@@ -45,6 +52,8 @@ public final class EdgesTest extends Told {
     copies();
     often();
     images();
+    imagesOfLetters();
+    imagesOfDays();
     finish();
   }
 
@@ -135,12 +144,28 @@ public final class EdgesTest extends Told {
     x.road(2, 3, 1);
     x.road(3, 1, 3);
     due(8, x.far(0, 1));
+    // Each PLACE may lie between two others.
+    for (int between = 0; between < 8; between++) {
+      x = new NamelessPost();
+      int one = (between + 1) % 8;
+      int other = (between + 2) % 8;
+      x.road(one, between, 2);
+      x.road(between, other, 3);
+      due(5, x.far(one, other));
+      due(5, x.far(other, one));
+      x.road(one, other, 6);
+      due(5, x.far(one, other));
+    }
+    x = new NamelessPost();
+    x.road(0, 2, 1);
     of("-2: no way");
     due(-2, x.far(0, 4));
     due(-2, x.far(4, 0));
     due(0, x.far(4, 4));
     x.road(4, 3, 9);
-    due(14, x.far(0, 4));
+    due(-2, x.far(0, 4));
+    x.road(3, 2, 9);
+    due(19, x.far(0, 4));
   }
 
   private static void changes() {
@@ -312,6 +337,31 @@ public final class EdgesTest extends Told {
     due(1 + 8, fault("a\nor b"));
   }
 
+  private static void misspelt() {
+    of("a word that can't stand there");
+    String[] words = {"at", "me", "not", "and", "or", "only", "then"};
+    String[] texts = {"* 3", "*", "* a", "a * b", "a * b", "* a", "* a"};
+    for (int i = 0; i < words.length; i++) {
+      String word = words[i];
+      int place = texts[i].indexOf('*');
+      due(-2, fault(texts[i].replace("*", word)));
+      for (int letter = 0; letter < word.length(); letter++) {
+        for (char other : new char[] {'a', 'q', 'z', 'n'}) {
+          String wrong = word.substring(0, letter) + other + word.substring(letter + 1);
+          if (!wrong.equals(word)) {
+            due(1 + 8 * place, fault(texts[i].replace("*", wrong)));
+          }
+        }
+        String shorter = word.substring(0, letter) + word.substring(letter + 1);
+        if (shorter.length() > 1) {
+          due(1 + 8 * place, fault(texts[i].replace("*", shorter)));
+        }
+      }
+      due(1 + 8 * place, fault(texts[i].replace("*", word + "s")));
+      due(1 + 8 * place, fault(texts[i].replace("*", word.toUpperCase())));
+    }
+  }
+
   private static void numbers() {
     of("at NUMBER (a PLACE, 1 digit); 1 a NUMBER of more digits, or above 7");
     for (int n = 0; n < 10; n++) {
@@ -465,6 +515,112 @@ public final class EdgesTest extends Told {
     due(8, x.fits(at2, 0, 0, 0, 3));
   }
 
+  private static void everyWord() {
+    of("each MARK, each TIE, each PLACE is its own");
+    for (int n = 0; n < 10; n++) {
+      NamelessPost x = people(0, 0, 0);
+      mark(x, 0, 0, (n + 9) % 10);
+      mark(x, 0, 1, n);
+      mark(x, 0, 2, (n + 1) % 10);
+      due(2, x.fits(cover(x, "" + (char) ('a' + n)), 0, 0, 0, -1));
+      due(1 << n, x.marks(1, 0));
+    }
+    for (int n = 0; n < 6; n++) {
+      NamelessPost x = people(0, 0, 0);
+      tie(x, 0, 0, (n + 5) % 6, 2);
+      tie(x, 0, 1, n, 2);
+      tie(x, 0, 2, (n + 1) % 6, 1);
+      due(2, x.fits(cover(x, (char) ('u' + n) + " me"), 2, 0, 0, -1));
+      due(0, x.fits(0, 1, 0, 0, -1));
+      due(4, x.ties(1, n, 0));
+    }
+    NamelessPost x = people(0, 1, 2, 3, 4, 5, 6, 7);
+    for (int place = 0; place < 8; place++) {
+      due(1 << place, x.fits(cover(x, "at " + place), 3, 0, 0, -1));
+    }
+    of("the first and the last of twelve");
+    x = people(0, 0, 0, 0, 0, 0, 0, 0, 0, 0, 0, 0);
+    mark(x, 0, 11, 9);
+    tie(x, 0, 0, 5, 11);
+    tie(x, 0, 11, 5, 0);
+    String[] texts = {"j", "z j", "z z j", "z me", "me", "not j", "j or not j"};
+    int[] want = {2048, 1, 2048, 1, 2048, 2047, 4095};
+    for (int i = 0; i < texts.length; i++) {
+      due(want[i], x.fits(cover(x, texts[i]), 11, 0, 0, -1));
+      due(want[i], x.fits(i, 11, 0, 0, 5));
+    }
+    of("a COVER is as it was told, whatever was read before it");
+    x = people(0, 0);
+    mark(x, 0, 1, 0);
+    String wrong = "not not u[b]" + many(" or not not u[b]", 24);
+    for (int i = 0; i < 8; i++) {
+      cover(x, wrong + " k");
+      due(i, cover(x, i % 2 == 0 ? "a" : "not a"));
+    }
+    for (int i = 0; i < 8; i++) {
+      due(i % 2 == 0 ? 2 : 1, x.fits(i, 0, 0, 0, -1));
+    }
+  }
+
+  /** Twelve people, 60 CHANGES of as many DAYS, eight COVERS. */
+  private static NamelessPost crowd() {
+    NamelessPost x = people(0, 1, 2, 0, 1, 2, 0, 1, 2, 0, 1, 2);
+    for (int i = 0; i < 60; i++) {
+      x.change(i, i % 3, i * 5 % 12, i % 4, (i * 5 + 1 + i % 11) % 12, i % 7 != 0);
+    }
+    String[] texts = {"me", "not me", "then me or a", "then u me", "a", "then b", "only me", "u v w[a or me]"};
+    for (String text : texts) {
+      cover(x, text);
+    }
+    return x;
+  }
+
+  private static void askedBefore() {
+    of("what was asked before makes no difference");
+    for (int sender = 0; sender < 12; sender++) {
+      NamelessPost x = crowd();
+      for (int day = 0; day < 60; day += 5) {
+        for (int cover = 0; cover < 8; cover++) {
+          x.fits(cover, sender, day, day, -1);
+          x.fits(cover, (sender + 8) % 12, day, day, -1);
+        }
+      }
+      for (int cover = 0; cover < 8; cover++) {
+        for (int day = 0; day < 60; day += 15) {
+          due(crowd().fits(cover, sender, day, day, -1), x.fits(cover, sender, day, day, -1));
+          due(crowd().fits(cover, sender, day, day, 4), x.fits(cover, sender, day, day, 4));
+        }
+      }
+    }
+    for (int sender = 0; sender < 12; sender++) {
+      for (int cover = 0; cover < 8; cover++) {
+        NamelessPost x = crowd();
+        for (int day = 0; day < 60; day++) {
+          x.fits(cover, sender ^ 1, day, day, -1);
+          x.fits(cover, (sender + 6) % 12, day, day, -1);
+        }
+        for (int day = 0; day < 60; day += 7) {
+          due(crowd().fits(cover, sender, day, day, -1), x.fits(cover, sender, day, day, -1));
+        }
+      }
+    }
+    of("CHANGES of DAYS ahead told later");
+    NamelessPost x = people(0, 0);
+    int a = cover(x, "a");
+    mark(x, 5, 1, 0);
+    due(2, x.fits(a, 0, 5, 5, -1));
+    due(0, x.fits(a, 0, 4, 4, -1));
+    mark(x, 0, 0, 0);
+    due(1, x.fits(a, 0, 4, 4, -1));
+    due(3, x.fits(a, 0, 5, 5, -1));
+    of("one more PERSON");
+    int notA = cover(x, "not a");
+    due(0, x.fits(notA, 0, 5, 5, -1));
+    x.person(0);
+    due(4, x.fits(notA, 0, 5, 5, -1));
+    due(4, x.fits(notA, 0, 5, 5, 0));
+  }
+
   private static void only() {
     of("with only: nobody, if it fits two or more");
     NamelessPost x = people(0, 0, 1);
@@ -601,6 +757,25 @@ public final class EdgesTest extends Told {
     due(0, x.asked(a, 0, 0, 0, 0, 2));
   }
 
+  private static void noRoads() {
+    of("no ROADS at all: nobody can tell of one elsewhere");
+    NamelessPost x = people(0, 1);
+    x.knows(0, 1, true);
+    mark(x, 0, 1, 0);
+    int a = cover(x, "a");
+    due(2, x.asked(a, 0, 0, 0, 0, 0));
+    all(-1, x.asked(a, 0, 0, 0, 0, 1), x.asked(a, 0, 0, 0, 0, 2));
+    due(0, x.sure(0, a, 1, 0, 0, 0));
+    due(-2, x.sure(0, a, 1, 0, 0, 1));
+    due(0, x.rings(a, 0, 0, 0));
+    due(2, x.ends(0, a, 0, 0, 0));
+    due(-2, x.needs(0, a, 1, 0, 0, 0));
+    x.letter(0, a, 1, 0);
+    due(0, x.days(1));
+    due(2, x.letters(0, 0));
+    due(1, x.letters(0, 5));
+  }
+
   private static void nobodyTells() {
     of("it goes to a PLACE by one ROAD at which it was not yet, that of the fewest days, of several the least");
     NamelessPost x = people(0, 0);
@@ -711,6 +886,37 @@ public final class EdgesTest extends Told {
     due(0, x.letters(1, 0));
     due(999, x.letters(1, 2));
     due(1, x.count(5));
+  }
+
+  private static void sender() {
+    of("a LETTER is of its own sender");
+    NamelessPost x = people(0, 1, 2, 3);
+    x.road(0, 3, 2);
+    x.road(0, 1, 1);
+    tie(x, 0, 3, 0, 1);
+    tie(x, 0, 3, 0, 2);
+    for (int one = 0; one < 3; one++) {
+      x.knows(0, 3, true);
+      x.knows(0, one, true);
+      x.knows(3, one, true);
+    }
+    int uMe = cover(x, "u me");
+    x.told(3);
+    due(0, x.letter(1, uMe, 3, 0));
+    due(1, x.letter(2, uMe, 3, 0));
+    due(2, x.letter(0, uMe, 3, 0));
+    x.days(1);
+    due(3, x.letters(0, 1));
+    due(3, x.letters(1, 1));
+    due(1, x.letters(2, 1));
+    int[] want = {0, 1, 1};
+    for (int one = 0; one < 3; one++) {
+      due(want[one], x.sure(one, uMe, 3, 0, 0, 0));
+      due(want[one] == 1 ? -2 : 0, x.judged(uMe, one, 0, 0));
+      due(want[one] == 1 ? 1 : 2, x.ends(one, uMe, 0, 0, 0));
+      due(want[one] == 1 ? 0 : -2, x.needs(one, uMe, 3, 0, 0, 0));
+      due(want[one] == 1 ? 2 : -2, x.copies(one, uMe, 3, 0, 0, 0, 0));
+    }
   }
 
   private static void stale() {
@@ -825,6 +1031,19 @@ public final class EdgesTest extends Told {
     due(-2, x.sure(0, a, 3, 0, 0, 1));
     x.knows(2, 3, true);
     due(3, x.sure(0, a, 3, 0, 0, 1));
+    of("the first who can tell of one or more");
+    // 0 can tell of 2 alone, to whom there is no way; 1 of 3.
+    x = people(0, 0, 5, 1);
+    mark(x, 0, 2, 0);
+    mark(x, 0, 3, 0);
+    x.knows(0, 2, true);
+    x.road(0, 1, 4);
+    a = cover(x, "a");
+    all(0, x.sure(0, a, 2, 0, 0, 0), x.sure(0, a, 3, 0, 0, 0));
+    all(-2, x.sure(0, a, 2, 0, 0, 1), x.sure(0, a, 3, 0, 0, 1));
+    x.knows(1, 3, true);
+    due(1, x.sure(0, a, 3, 0, 0, 0));
+    due(4, x.sure(0, a, 3, 0, 0, 1));
     of("unless he opens it himself");
     x = people(0, 0, 0);
     int all = cover(x, "a or not a");
@@ -1075,6 +1294,85 @@ public final class EdgesTest extends Told {
     due(1024, x.cheapest(0, 1, 0, 0, 1));
   }
 
+  private static void cheapestWords() {
+    of("all sixteen words are needed");
+    // Not one word holds of 1. On DAY 0 each other one has a word of his own, on DAY 1 some another.
+    NamelessPost x = people(0, 0, 0, 0, 0, 0, 0, 0, 0, 0, 0, 0);
+    mark(x, 0, 0, 0);
+    for (int one = 2; one < 11; one++) {
+      mark(x, 0, one, one - 1);
+    }
+    tie(x, 0, 11, 0, 0);
+    for (int one = 2; one < 7; one++) {
+      unmark(x, 1, one, one - 1);
+      tie(x, 1, one, one - 1, 0);
+    }
+    due(22, x.cheapest(0, 1, 0, 0, 0));
+    due(2047, x.cheapest(0, 1, 0, 0, 1));
+    due(2047, x.cheapest(0, 1, 0, 0, 2));
+    due(32, x.cheapest(0, 1, 0, 1, 0));
+    due(65535, x.cheapest(0, 1, 0, 1, 1));
+    due(65535, x.cheapest(0, 1, 0, 1, 2));
+    for (int of = 0; of <= 16; of++) {
+      x.worth(of, 99);
+    }
+    due(16 * 198, x.cheapest(0, 1, 0, 1, 0));
+    of("any of sixteen words does");
+    x = people(0, 0);
+    for (int n = 0; n < 16; n++) {
+      x.change(0, n < 10 ? 0 : 1, 1, n < 10 ? n : n - 10, 0, true);
+    }
+    due(1, x.cheapest(0, 1, 0, 0, 1));
+    for (int n = 0; n < 16; n++) {
+      x.worth(n, 0);
+      due(1 << n, x.cheapest(0, 1, 0, 0, 1));
+      due(0, x.cheapest(0, 1, 0, 0, 0));
+      x.worth(n, 1);
+    }
+    of("more words for less");
+    // By mark a from 0 and 2, or by b and c.
+    x = people(0, 0, 0);
+    mark(x, 0, 1, 0);
+    mark(x, 0, 1, 1);
+    mark(x, 0, 1, 2);
+    mark(x, 0, 0, 1);
+    mark(x, 0, 2, 2);
+    x.worth(0, 2);
+    due(1, x.cheapest(0, 1, 0, 0, 1));
+    x.worth(0, 3);
+    due(2, x.cheapest(0, 1, 0, 0, 0));
+    due(6, x.cheapest(0, 1, 0, 0, 1));
+    of("the least of several of two words");
+    // Unlike 0 in a or b, unlike 2 in c or j, unlike 3 in b or j.
+    x = people(0, 0, 0, 0);
+    for (int n : new int[] {0, 1, 2, 9}) {
+      mark(x, 0, 1, n);
+    }
+    mark(x, 0, 0, 2);
+    mark(x, 0, 0, 9);
+    mark(x, 0, 2, 0);
+    mark(x, 0, 2, 1);
+    mark(x, 0, 3, 0);
+    mark(x, 0, 3, 2);
+    due(2, x.cheapest(0, 1, 0, 0, 0));
+    due(6, x.cheapest(0, 1, 0, 0, 1));
+    for (int of = 0; of <= 16; of++) {
+      x.worth(of, 0);
+    }
+    due(0, x.cheapest(0, 1, 0, 0, 0));
+    due(6, x.cheapest(0, 1, 0, 0, 1));
+    of("one less unlike than another, told behind it");
+    // Unlike 0 in a or b, unlike 2 in c, unlike 3 in a.
+    x = people(0, 0, 0, 0);
+    mark(x, 0, 0, 0);
+    mark(x, 0, 0, 1);
+    mark(x, 0, 2, 2);
+    mark(x, 0, 3, 0);
+    due(4, x.cheapest(0, 1, 0, 0, 0));
+    due(5, x.cheapest(0, 1, 0, 0, 1));
+    due(5, x.cheapest(0, 1, 0, 0, 2));
+  }
+
   private static void cheapestNone() {
     of("the least other one of whom none of these words does not hold");
     NamelessPost x = people(0, 0, 0, 0);
@@ -1144,6 +1442,18 @@ public final class EdgesTest extends Told {
     }
     due(960, x.apart(0, 0, 0));
     due(960, x.apart(0, 0, 1));
+    of("two do it where three lesser ones would, too");
+    // One each has a, b, c of his own; d and e tell all four apart.
+    x = people(0, 0, 0, 0);
+    for (int one = 1; one < 4; one++) {
+      mark(x, 0, one, one - 1);
+    }
+    mark(x, 0, 1, 3);
+    mark(x, 0, 2, 4);
+    mark(x, 0, 3, 3);
+    due(7, x.apart(0, 0, 0));
+    mark(x, 0, 3, 4);
+    due(24, x.apart(0, 0, 0));
     of("ties do not count");
     x = people(0, 0);
     tie(x, 0, 0, 0, 1);
@@ -1313,6 +1623,33 @@ public final class EdgesTest extends Told {
     due(0, x.needs(1, a, 0, 7, 998, 0));
   }
 
+  private static void needsNobodyElse() {
+    of("the one and the other are PEOPLE");
+    // Of 1, at 0, it holds for himself alone, since he does not see 0; nobody else could be told of.
+    NamelessPost x = people(3, 0);
+    x.road(3, 5, 1);
+    x.road(3, 0, 2);
+    tie(x, 0, 1, 0, 0);
+    mark(x, 0, 0, 1);
+    int text = cover(x, "not u b and not me");
+    due(2, x.fits(text, 0, 0, 0, 1));
+    due(0, x.fits(text, 0, 0, 0, -1));
+    all(-2, x.needs(0, text, 1, 3, 0, 0), x.needs(0, text, 1, 3, 0, 1), x.needs(0, text, 1, 3, 0, 2));
+    of("of whom the one does not KNOW the other");
+    x = people(0, 1, 2);
+    x.road(0, 1, 1);
+    x.road(0, 2, 1);
+    mark(x, 0, 1, 0);
+    mark(x, 0, 2, 0);
+    int a = cover(x, "a");
+    due(1, x.needs(0, a, 2, 0, 0, 0));
+    due(2, x.needs(0, a, 2, 0, 0, 1));
+    // If 0 did not KNOW 1 any more, it would be opened by 2.
+    x.knows(0, 1, true);
+    x.knows(0, 2, true);
+    all(-2, x.needs(0, a, 2, 0, 0, 0), x.needs(0, a, 2, 0, 0, 1), x.needs(0, a, 2, 0, 0, 2));
+  }
+
   private static void mends() {
     of("MENDS: 32: it needs none; -2: no word does");
     NamelessPost x = people(0, 0, 0);
@@ -1363,6 +1700,17 @@ public final class EdgesTest extends Told {
     unmark(x, 7, 2, 0);
     due(25, x.mends(a, 0, 1, 6));
     due(32, x.mends(a, 0, 1, 7));
+    of("each of the 32 words");
+    for (int n = 0; n < 16; n++) {
+      for (int one : new int[] {0, 2}) {
+        x = people(0, 0, 0);
+        x.change(0, n < 10 ? 0 : 1, one, n < 10 ? n : n - 10, 1, true);
+        int both = cover(x, "not me");
+        due(n, x.mends(both, 1, one, 0));
+        due(16 + n, x.mends(both, 1, 2 - one, 0));
+        due(-2, x.mends(both, 1, 1, 0));
+      }
+    }
   }
 
   private static void readers() {
@@ -1578,5 +1926,103 @@ public final class EdgesTest extends Told {
     due(-2, x.far(0, 1));
     due(1, x.sees(0, 0));
     due(0, x.marks(1, 0));
+  }
+
+  private static void imagesOfLetters() {
+    of("LETTERS are as they were, though others had their numbers in between");
+    NamelessPost x = people(0, 1, 2, 7);
+    x.road(0, 1, 2);
+    x.road(1, 2, 3);
+    mark(x, 0, 2, 0);
+    x.knows(0, 2, true);
+    tie(x, 0, 2, 0, 1);
+    int a = cover(x, "a");
+    int uMe = cover(x, "u me");
+    x.image(0);
+    x.letter(1, uMe, 2, 1);
+    x.letter(0, a, 2, 0);
+    x.letter(0, a, 1, 2);
+    x.letter(0, a, 1, 7);
+    x.days(1);
+    x.image(1);
+    // Others with the same numbers, of other senders, places and days.
+    x.back(0);
+    x.days(9);
+    for (int i = 0; i < 8; i++) {
+      x.letter(3, a, 0, 2 + i % 2);
+    }
+    x.days(3);
+    due(1, x.back(1));
+    due(4, x.count(4));
+    int[][] want = {
+      // At 1 nobody sees 2 and it goes to 0; at 0 it is told of 2; at 2 it is opened; at 7 sent back.
+      {0, 0, 2, -1, 0, 3},
+      {0, 1, 2, -1, 0, 3},
+      {1, 2, 0, 2, 0, 4},
+      {2, 7, 0, -1, 0, 128},
+    };
+    for (int i = 0; i < 4; i++) {
+      for (int what = 0; what < 6; what++) {
+        due(want[i][what], x.letters(i, what));
+      }
+    }
+    due(-2, x.letters(4, 0));
+    due(2, x.often());
+    // 0 does not see 1, whose tie it is about; nor does it go to 1 a second time.
+    due(1, x.days(2));
+    due(2, x.letters(0, 0));
+    due(0, x.letters(0, 1));
+    due(3, x.letters(0, 5));
+    due(2, x.letters(1, 1));
+    due(5, x.letters(1, 2));
+    due(7, x.letters(1, 5));
+    due(0, x.days(3));
+    due(1, x.letters(1, 4));
+    due(1, x.count(6));
+    of("on the DAY it was sent, by its own sender");
+    x.back(0);
+    x.knows(1, 2, true);
+    x.letter(1, uMe, 2, 1);
+    x.days(2);
+    x.image(2);
+    x.back(0);
+    x.days(5);
+    x.letter(0, a, 3, 7);
+    x.days(1);
+    due(2, x.back(2));
+    // Sent on DAY 0 from 1 it comes to 2 on DAY 3, where 2 must see 1 to know of himself.
+    x.knows(2, 1, true);
+    x.change(1, 1, 2, 0, 1, false);
+    due(1, x.days(1));
+    due(0, x.days(1));
+    due(1, x.letters(0, 4));
+    due(2, x.letters(0, 3));
+    due(3, x.letters(0, 2));
+  }
+
+  private static void imagesOfDays() {
+    of("CHANGES and PEOPLE are as they were, though as many others were there in between");
+    NamelessPost x = people(0, 1);
+    int a = cover(x, "a");
+    int at = cover(x, "at 5");
+    x.image(0);
+    mark(x, 3, 1, 0);
+    x.person(5);
+    x.image(1);
+    due(2, x.fits(a, 0, 3, 3, -1));
+    due(4, x.fits(at, 0, 3, 3, -1));
+    x.back(0);
+    mark(x, 3, 0, 0);
+    x.person(6);
+    due(1, x.fits(a, 0, 3, 3, -1));
+    due(0, x.fits(at, 0, 3, 3, -1));
+    due(6, x.lives(2, 3));
+    due(1, x.marks(0, 3));
+    x.back(1);
+    due(2, x.fits(a, 0, 3, 3, -1));
+    due(4, x.fits(at, 0, 3, 3, -1));
+    due(5, x.lives(2, 3));
+    due(0, x.marks(0, 3));
+    due(1, x.marks(1, 3));
   }
 }
