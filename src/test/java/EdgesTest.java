@@ -45,6 +45,7 @@ public final class EdgesTest extends Told {
     needs();
     needsFirst();
     needsNobodyElse();
+    needsOfEach();
     mends();
     readers();
     alone();
@@ -54,6 +55,7 @@ public final class EdgesTest extends Told {
     images();
     imagesOfLetters();
     imagesOfDays();
+    imagesOfRoads();
     finish();
   }
 
@@ -1650,6 +1652,49 @@ public final class EdgesTest extends Told {
     all(-2, x.needs(0, a, 2, 0, 0, 0), x.needs(0, a, 2, 0, 0, 1), x.needs(0, a, 2, 0, 0, 2));
   }
 
+  /** Twelve people, all at place 5, to which no road leads, but for those who are moved. */
+  private static NamelessPost twelve() {
+    NamelessPost x = people(5, 5, 5, 5, 5, 5, 5, 5, 5, 5, 5, 5);
+    cover(x, "a");
+    return x;
+  }
+
+  private static void needsOfEach() {
+    of("each as 12 * the one and the other");
+    for (int one = 0; one < 12; one++) {
+      for (int other = 0; other < 12; other++) {
+        if (one != other) {
+          NamelessPost x = twelve();
+          x.road(0, 1, 2);
+          x.road(0, 6, 1);
+          move(x, 0, one, 0);
+          move(x, 0, other, 1);
+          mark(x, 0, other, 0);
+          due(1, x.needs(one, 0, other, 0, 0, 0));
+          due(12 * one + other, x.needs(one, 0, other, 0, 0, 1));
+          due(-2, x.needs(one, 0, other, 0, 0, 2));
+        }
+      }
+    }
+    of("two, each as 12 * the one and the other, the lesser ahead");
+    for (int one = 0; one < 12; one++) {
+      int between = (one + 5) % 12;
+      int last = (one + 10) % 12;
+      NamelessPost x = twelve();
+      x.road(0, 7, 1);
+      x.road(0, 1, 2);
+      x.road(1, 2, 3);
+      x.road(1, 6, 1);
+      move(x, 0, one, 0);
+      move(x, 0, between, 1);
+      move(x, 0, last, 2);
+      mark(x, 0, last, 0);
+      due(2, x.needs(one, 0, last, 0, 0, 0));
+      due(12 * Math.min(one, between) + last, x.needs(one, 0, last, 0, 0, 1));
+      due(12 * Math.max(one, between) + last, x.needs(one, 0, last, 0, 0, 2));
+    }
+  }
+
   private static void mends() {
     of("MENDS: 32: it needs none; -2: no word does");
     NamelessPost x = people(0, 0, 0);
@@ -2024,5 +2069,35 @@ public final class EdgesTest extends Told {
     due(5, x.lives(2, 3));
     due(0, x.marks(0, 3));
     due(1, x.marks(1, 3));
+  }
+
+  private static void imagesOfRoads() {
+    of("ROADS between each two PLACES are as they were");
+    for (int one = 0; one < 8; one++) {
+      for (int other = 0; other < one; other++) {
+        NamelessPost x = people(one, other);
+        x.knows(0, 1, true);
+        mark(x, 0, 1, 0);
+        int a = cover(x, "a");
+        x.image(0);
+        due(0, x.road(one, other, 4));
+        x.image(1);
+        due(0, x.back(0));
+        due(0, x.count(1));
+        all(-2, x.far(one, other), x.far(other, one));
+        due(2, x.asked(a, 0, 0, 0, one, 0));
+        due(0, x.back(1));
+        due(1, x.count(1));
+        all(4, x.far(one, other), x.far(other, one));
+        due(other, x.asked(a, 0, 0, 0, one, 1));
+        all(-1, x.road(one, other, 4), x.road(other, one, 4));
+        x.back(0);
+        due(0, x.road(other, one, 7));
+        all(7, x.far(one, other), x.far(other, one));
+        due(7, x.ends(0, a, one, 0, 2));
+        x.back(1);
+        due(4, x.ends(0, a, one, 0, 2));
+      }
+    }
   }
 }
