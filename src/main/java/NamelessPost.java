@@ -56,6 +56,9 @@ public final class NamelessPost {
   private final int[] tape = new int[LONGEST_TEXT];
   private int tapeLength;
   private final State[] images = new State[MOST_IMAGES];
+  /** Rows of rings and often, made once for all calls. */
+  private final int[] nextPlace = new int[PLACES];
+  private final int[] openedBy = new int[MOST_PEOPLE];
 
   public NamelessPost() {}
 
@@ -367,15 +370,14 @@ public final class NamelessPost {
     if (read == null || !isPerson(sender) || !isDay(day) || what < 0 || what > 1) {
       return NONE;
     }
-    int[] next = new int[PLACES];
     for (int place = 0; place < PLACES; place++) {
       carrier.ask(read, sender, day, day, place);
-      next[place] = carrier.how == GOES_ON ? carrier.whom : NONE;
+      nextPlace[place] = carrier.how == GOES_ON ? carrier.whom : NONE;
     }
     int inRings = 0;
     int fewest = 0;
     for (int place = 0; place < PLACES; place++) {
-      int round = daysOfRound(next, place);
+      int round = daysOfRound(place);
       if (round > 0) {
         inRings |= 1 << place;
         fewest = fewest == 0 ? round : Math.min(fewest, round);
@@ -480,16 +482,16 @@ public final class NamelessPost {
   }
 
   public int often() {
-    int[] opened = new int[MOST_PEOPLE];
+    Arrays.fill(openedBy, 0);
     for (int i = 0; i < state.letters; i++) {
       int opener = state.post[i].opener;
       if (isPerson(opener)) {
-        opened[opener]++;
+        openedBy[opener]++;
       }
     }
     int most = NO;
     for (int one = 0; one < state.people; one++) {
-      if (opened[one] > (most == NO ? 0 : opened[most])) {
+      if (openedBy[one] > (most == NO ? 0 : openedBy[most])) {
         most = one;
       }
     }
@@ -721,12 +723,12 @@ public final class NamelessPost {
     return fitter.fit(read, sender, facts, seen);
   }
 
-  /** The days of the round from a place back to it; 0 if it does not come back. */
-  private int daysOfRound(int[] next, int from) {
+  /** The days of the round from a place, by nextPlace, back to it; 0 if it does not come back. */
+  private int daysOfRound(int from) {
     int place = from;
     int round = 0;
     for (int steps = 0; steps < PLACES; steps++) {
-      int to = next[place];
+      int to = nextPlace[place];
       if (to == NONE) {
         return 0;
       }

@@ -61,7 +61,11 @@ public final class PlainPostTest {
       if (random.nextInt(6) == 0) {
         tellMarks();
       }
-      tellWorld();
+      if (random.nextInt(8) == 0) {
+        tellRound();
+      } else {
+        tellWorld();
+      }
       while (calls.size() < 512 && wrong < 20) {
         int pick = random.nextInt(100);
         if (pick < 10) {
@@ -94,6 +98,34 @@ public final class PlainPostTest {
       for (int i = 0; i < 4; i++) {
         feedAll(new String[] {"a", "then a", "a and not u b", "then b or u a", "only a", "not a and not b"}[random.nextInt(6)]);
         call("cover");
+      }
+    }
+
+    /** At each place one alone knows whose tie tells of one at the next place: letters go round. */
+    void tellRound() {
+      int round = 2 + random.nextInt(2);
+      int ahead = plain.now.start.size();
+      for (int i = 0; i < 3 * round; i++) {
+        call("person", i < round ? i : i < 2 * round ? (i + 1) % round : 7);
+      }
+      for (int i = 0; i < round; i++) {
+        call("road", i, (i + 1) % round, 1 + random.nextInt(3));
+        call("change", 0, 0, ahead + 2 * round + i, 0, 0, 1);
+        call("change", 0, 1, ahead + round + i, 0, ahead + 2 * round + i, 1);
+        call("knows", ahead + i, ahead + round + i, 1);
+        call("knows", ahead + i, ahead + 2 * round + i, 1);
+      }
+      for (int i = random.nextInt(4); i > 0; i--) {
+        call("knows", one(), one(), 1);
+        tellChange(random.nextBoolean() ? -1 : 90 + random.nextInt(20));
+      }
+      for (int i = 0; i < 4; i++) {
+        feedAll(new String[] {"u a", "then u a", "only u a", "u a and not me", "u [a or b]"}[random.nextInt(5)]);
+        call("cover");
+      }
+      for (int i = 0; i < 8; i++) {
+        int[] rings = {coverNumber(), one(), day(), i % 2};
+        call("rings", rings);
       }
     }
 
